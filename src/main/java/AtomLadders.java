@@ -868,7 +868,7 @@ public final class AtomLadders {
 
     /** Which TRUE heights there can be: a row of bounds says how far each LEVEL can be above each other one. */
     private static final class Net {
-        /** Far above any bound, and three of it and a bound still are an int. */
+        /** Far above any bound: a way through all LEVELS is below 8008000. */
         private static final int UNBOUND = 500000000;
         private static final int PAIRS = MOST_LEVELS * MOST_LEVELS;
 
@@ -1049,12 +1049,10 @@ public final class AtomLadders {
             denominator = before;
         }
 
+        /** The least of each part is 0, whatever its ties say. */
         private void holdLeast() {
             for (int k = 0; k < size; k++) {
                 if (least[k] == k) {
-                    for (int r = 0; r < size; r++) {
-                        rows[r][k] = 0;
-                    }
                     Arrays.fill(rows[k], 0L);
                     rows[k][k] = 1;
                 }
@@ -1091,13 +1089,13 @@ public final class AtomLadders {
         }
 
         /** A whole number and unknown k, to the next whole number, half of one upwards. */
-        int roundedSum(int base, int k, int least, int most) {
+        int roundedSum(int base, int k, int bottom, int top) {
             if (denominator <= 0) {
                 return base;
             }
             long twice = 2 * (base * denominator + numerator(k)) + denominator;
             long whole = Math.floorDiv(twice, 2 * denominator);
-            return (int) Math.max(least, Math.min(most, whole));
+            return (int) Math.max(bottom, Math.min(top, whole));
         }
     }
 

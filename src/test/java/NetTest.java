@@ -41,6 +41,12 @@ public final class NetTest {
         x.take(3);
         gave(x, 35, 1, 3, 0);
         DUE.is("14 just not", x.closes(), 0);
+        x.take(4);
+        gave(x, 26, 1, 3, 0);
+        DUE.is("14 just, from below", x.closes(), 1);
+        x.take(5);
+        gave(x, 25, 1, 3, 0);
+        DUE.is("14 just not, from below", x.closes(), 0);
         AtomLadders y = square();
         gave(y, 5, 5, 1, 0);
         gave(y, 5, 5, 0, 1);
@@ -52,6 +58,9 @@ public final class NetTest {
     private static void barred() {
         AtomLadders x = square();
         DUE.is("15 nothing given", x.barred(), 0);
+        x.line(1, 0, 0);
+        DUE.is("15 one alone", x.give(0, 1, 0) == 1 ? x.barred() : -99, 0);
+        x.drop();
         gave(x, 10, 0, 1, 0);
         gave(x, 10, 0, 2, 1);
         gave(x, 10, 0, 3, 2);
@@ -92,9 +101,11 @@ public final class NetTest {
         }
         DUE.is("15 four alike", x.barred(), 0);
         AtomLadders y = square();
-        for (int n = 0; n < 13; n++) {
+        for (int n = 0; n < 12; n++) {
             gave(y, 10, 0, 1, 0);
         }
+        DUE.is("15 twelve that close", y.barred(), 0);
+        gave(y, 10, 0, 1, 0);
         DUE.is("15 state though it can close", y.barred(), -2);
         DUE.is("15 it can close", y.closes(), 1);
     }
@@ -159,8 +170,12 @@ public final class NetTest {
         DUE.is("18 above", x.rest(2, 0), 4);
         DUE.is("18 above", x.rest(2, 1), 3);
         DUE.is("18 state", x.rest(3, 0), FRACTION_STATE);
+        gave(x, 7, 0, 2, 1);
+        gave(x, 8, 0, 2, 1);
+        DUE.is("18 of two levels above 0", x.rest(4, 0), -1);
+        DUE.is("18 of two levels above 0", x.rest(4, 1), 2);
         DUE.is("18 bad ahead of state", x.rest(3, 2), FRACTION_BAD);
-        DUE.is("18 bad", x.rest(4, 0), FRACTION_BAD);
+        DUE.is("18 bad", x.rest(6, 0), FRACTION_BAD);
         DUE.is("18 bad", x.rest(-1, 0), FRACTION_BAD);
         DUE.is("18 bad", x.rest(0, -1), FRACTION_BAD);
         x.take(1);

@@ -53,6 +53,8 @@ public final class ShellsTest {
     private static void goodTexts() {
         good("1s", 0, 1);
         good("2p", 1, 1);
+        good("1s^1", 0, 1);
+        good("2p^01", 1, 1);
         good("  2  p  ^  2  ", 0, 1);
         good("02p^03", 1, 1);
         good("9f", 1, 1);
@@ -319,6 +321,9 @@ public final class ShellsTest {
         x.shells();
         DUE.is("32 the other side", x.missing(0), 1);
         DUE.is("32 the other side", x.missing(1), 1);
+        Due.text(x, "2p^2");
+        x.shells();
+        DUE.is("32 SPIN 0 too", x.missing(1), 5);
         // f^3 has SPINS above 9, which are not counted
         AtomLadders f = of("4f^3");
         long sum = 0;

@@ -49,9 +49,12 @@ public final class VersionsTest {
         x.keep();
         compared(x, 0, 0, 0, 0, 0, 0);
         x.height(0, 7);
+        compared(x, 0, 1, 0, 0, 0, 7);
         x.height(2, 290);
         compared(x, 0, 2, 0, 0, 0, 10);
         x.give(0, 0, 1);
+        compared(x, 0, 2, 1, 0, 0, 10);
+        x.give(0, 1, 2);
         compared(x, 0, 2, 1, 0, 0, 10);
         x.take(0);
         x.give(1, 2, 1);
