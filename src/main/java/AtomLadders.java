@@ -1369,58 +1369,96 @@ public final class AtomLadders {
         private static final int CELLS = (2 * MOST_M + 1) * WIDTH;
         private static final int MIDDLE = MOST_M * WIDTH + MOST_FILLED;
 
+        /** Of one h a shell of f has 7 PLACES; no choice of them has an m sum beyond 6. */
+        private static final int MOST_HALF = 7;
+        private static final int HALF_M = 6;
+
         int shellCount;
         int side;
-        /** Row c: with c PLACES filled of the shell at hand, and all shells before it. */
-        private final long[][] ways = new long[MOST_FILLED + 1][CELLS];
+        private final long[] ways = new long[CELLS];
+        /** As ways, with the shell at hand too. */
+        private final long[] wider = new long[CELLS];
+        /** Row c: the choices of c PLACES of one h, by the sum of their m. */
+        private final long[][] halves = new long[MOST_HALF + 1][2 * HALF_M + 1];
+        /** A choice of h 1 with one of h -1, by the sum of all m. */
+        private final long[] pairs = new long[4 * HALF_M + 1];
         private final long[] termCounts = new long[(MOST_FILLED + 1) * (MOST_M + 1)];
         private int filledBefore;
-        private int reach;
-        private int sideSum;
+        /** The sum of l times how many: no M is beyond it, and modulo 2 it is the SIDE. */
+        private int letterSum;
 
         void begin() {
-            Arrays.fill(ways[0], 0L);
-            ways[0][MIDDLE] = 1;
+            Arrays.fill(ways, 0L);
+            ways[MIDDLE] = 1;
             filledBefore = 0;
-            reach = 0;
-            sideSum = 0;
+            letterSum = 0;
         }
 
         void fillShell(int letter, int amount) {
-            if (amount < 1 || filledBefore + amount > MOST_FILLED) {
+            int most = 2 * letter + 1;
+            if (letter < 0 || most > MOST_HALF || amount < 1 || filledBefore + amount > MOST_FILLED) {
                 return;
             }
-            for (int c = 1; c <= amount; c++) {
-                Arrays.fill(ways[c], 0L);
+            countHalves(letter);
+            Arrays.fill(wider, 0L);
+            for (int up = Math.max(0, amount - most); up <= amount && up <= most; up++) {
+                pairHalves(up, amount - up);
+                spreadPairs(2 * up - amount);
             }
-            for (int m = -letter; m <= letter; m++) {
-                addPlace(m, 1, letter, amount);
-                addPlace(m, -1, letter, amount);
-            }
-            System.arraycopy(ways[amount], 0, ways[0], 0, CELLS);
+            System.arraycopy(wider, 0, ways, 0, CELLS);
             filledBefore += amount;
-            reach += letter * amount;
-            sideSum += letter * amount;
+            letterSum += letter * amount;
         }
 
-        /** From the most filled downwards, so that no FILLING has the PLACE twice. */
-        private void addPlace(int m, int h, int letter, int amount) {
-            for (int c = amount; c >= 1; c--) {
-                int filled = filledBefore + c - 1;
-                // No 12 PLACES of four shells reach an M above 32: what lies beyond is 0.
-                int far = Math.min(reach + letter * (c - 1), MOST_M - letter);
-                for (int fromM = -far; fromM <= far; fromM++) {
-                    for (int fromH = -filled; fromH <= filled; fromH += 2) {
-                        int at = MIDDLE + fromM * WIDTH + fromH;
-                        ways[c][at + m * WIDTH + h] += ways[c - 1][at];
+        /** From the most chosen downwards, so that no choice has a PLACE twice. */
+        private void countHalves(int letter) {
+            for (int c = 0; c <= MOST_HALF; c++) {
+                Arrays.fill(halves[c], 0L);
+            }
+            halves[0][HALF_M] = 1;
+            for (int m = -letter; m <= letter; m++) {
+                for (int c = MOST_HALF; c >= 1; c--) {
+                    for (int from = Math.max(0, -m); from <= 2 * HALF_M && from + m <= 2 * HALF_M; from++) {
+                        halves[c][from + m] += halves[c - 1][from];
                     }
+                }
+            }
+        }
+
+        private void pairHalves(int up, int down) {
+            Arrays.fill(pairs, 0L);
+            for (int a = 0; a <= 2 * HALF_M; a++) {
+                for (int b = 0; b <= 2 * HALF_M; b++) {
+                    pairs[a + b] += halves[up][a] * halves[down][b];
+                }
+            }
+        }
+
+        private void spreadPairs(int h) {
+            int far = Math.min(letterSum, MOST_M);
+            for (int m = -far; m <= far; m++) {
+                for (int before = -filledBefore; before <= filledBefore; before += 2) {
+                    long count = waysOf(m, before);
+                    if (count != 0) {
+                        addPairs(count, m, before + h);
+                    }
+                }
+            }
+        }
+
+        private void addPairs(long count, int from, int h) {
+            for (int i = 0; i <= 4 * HALF_M; i++) {
+                int m = from + i - 2 * HALF_M;
+                // No 12 PLACES of four shells reach an M above 32: what lies beyond is 0.
+                if (Math.abs(m) <= MOST_M && Math.abs(h) <= MOST_FILLED) {
+                    wider[MIDDLE + m * WIDTH + h] += count * pairs[i];
                 }
             }
         }
 
         void finish(int told) {
             shellCount = told;
-            side = sideSum % 2;
+            side = letterSum % 2;
             for (int k = 0; k <= MOST_FILLED; k++) {
                 for (int l = 0; l <= MOST_M; l++) {
                     termCounts[k * (MOST_M + 1) + l] =
@@ -1433,7 +1471,7 @@ public final class AtomLadders {
             if (Math.abs(m) > MOST_M || Math.abs(h) > MOST_FILLED) {
                 return 0;
             }
-            return ways[0][MIDDLE + m * WIDTH + h];
+            return ways[MIDDLE + m * WIDTH + h];
         }
 
         long termCount(int l, int k) {
