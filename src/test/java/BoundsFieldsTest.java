@@ -129,7 +129,7 @@ public final class BoundsFieldsTest {
         DUE.is("34 the greatest sum, ROUND", z.pattern(0, 1, 3), 2 * straight);
     }
 
-    /** A PATTERN of three behind one of 28: nothing is left of it. */
+    /** A PATTERN of two, of three behind one of 28: nothing is left of it. */
     private static void patternAnew() {
         AtomLadders x = pair(9, 100, 9, -99);
         x.level(5, 0, 0);
@@ -141,7 +141,15 @@ public final class BoundsFieldsTest {
             DUE.is("34 two of them, what " + what, x.pattern(2, 3, what), due[what]);
         }
         DUE.is("35 none more", x.component(2, 3, 2, 0), COMPONENT_BAD);
-        DUE.is("34 28 of them", x.pattern(0, 1, 0), 28);
+        x.factor(3, 5);
+        // of the 28 the fourth is STRAIGHT: it is no part of the three
+        due[0] = 3;
+        for (int what = 0; what < 4; what++) {
+            DUE.is("34 28 of them", x.pattern(0, 1, 0), 28);
+            DUE.is("35 the fourth of 28", x.component(0, 1, 3, 1), 1);
+            DUE.is("34 three of them, what " + what, x.pattern(2, 3, what), due[what]);
+        }
+        DUE.is("35 none more", x.component(2, 3, 3, 0), COMPONENT_BAD);
     }
 
     // ---- 35
