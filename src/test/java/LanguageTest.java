@@ -28,6 +28,7 @@ public final class LanguageTest {
         face();
         members();
         source();
+        lengths();
         DUE.end();
     }
 
@@ -123,5 +124,24 @@ public final class LanguageTest {
                 || line.matches("(versions\\[v\\]|sheets\\[k\\]|ahead\\[i\\]) = new \\w+\\(\\);");
             DUE.holds("made with the object: " + line, good);
         }
+    }
+
+    /** From a line that opens a method or constructor to the closing one of the same depth. */
+    private static void lengths() throws Exception {
+        List<String> rows = Files.readAllLines(Path.of("src/main/java/AtomLadders.java"), StandardCharsets.US_ASCII);
+        int methods = 0;
+        for (int from = 0; from < rows.size(); from++) {
+            String row = rows.get(from);
+            if (row.matches("( {4}| {8})[A-Za-z][^=]*\\) \\{") && !row.matches(" *(if|for|while|switch|else)\\b.*")) {
+                String close = row.substring(0, row.length() - row.stripLeading().length()) + "}";
+                int to = from;
+                while (to < rows.size() && !rows.get(to).equals(close)) {
+                    to++;
+                }
+                DUE.holds("some sixty lines: " + row.trim(), to - from < 60);
+                methods++;
+            }
+        }
+        DUE.holds("methods were found", methods > 100);
     }
 }
